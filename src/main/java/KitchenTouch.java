@@ -837,7 +837,7 @@ public final class KitchenTouch {
                         makeClean(base, were);
                     } else if (store.kindOf(thing) == PERSON) {
                         long washed = were & now[base + UNCLEAN] & ~now[base + IS_WASHED];
-                        stirred |= washed != 0L;
+                        stirred = stirred || washed != 0L;
                         now[base + IS_WASHED] |= washed;
                     }
                     break;
@@ -859,7 +859,7 @@ public final class KitchenTouch {
         }
 
         private void makeClean(int base, long ways) {
-            stirred |= (now[base + UNCLEAN] & ways) != 0L;
+            stirred = stirred || (now[base + UNCLEAN] & ways) != 0L;
             for (int worst = 0; worst < DEGREES; worst++) {
                 now[base + worst] &= ~ways;
             }
@@ -920,7 +920,7 @@ public final class KitchenTouch {
                     long ways = were & ~now[joined + IS_APART] & ~now[joined + IS_BROKEN] & ~now[partner + IS_BROKEN];
                     ways &= now[joined + UNCLEAN] | now[partner + UNCLEAN];
                     if (ways != 0L) {
-                        now[joined + IS_WASHED] &= ~lessen(joined, now, partner, ways);
+                        lessen(joined, now, partner, ways);
                         now[partner + IS_WASHED] &= ~lessen(partner, now, joined, ways);
                     }
                 }
@@ -1006,7 +1006,7 @@ public final class KitchenTouch {
             for (int b = 1; b < store.thingCount; b++) {
                 for (int a = 0; a < b; a++) {
                     if (areRivals(left, hour, a, b, b)) {
-                        return 1 << a | 1 << b;
+                        return (1 << a) | (1 << b);
                     }
                 }
             }
@@ -1014,7 +1014,7 @@ public final class KitchenTouch {
                 for (int b = 1; b < c; b++) {
                     for (int a = 0; a < b; a++) {
                         if (areRivals(left, hour, a, b, c)) {
-                            return 1 << a | 1 << b | 1 << c;
+                            return (1 << a) | (1 << b) | (1 << c);
                         }
                     }
                 }
@@ -1065,8 +1065,8 @@ public final class KitchenTouch {
     private static final class Planner {
         private final Store store;
         private final Story story;
-        /** What things were behind each number of steps. */
-        private final long[] rows = new long[(MOST_STEPS + 1) * ROW];
+        /** What things were ahead of each step, or of all washings. */
+        private final long[] rows = new long[MOST_STEPS * ROW];
 
         Planner(Store store, Story story) {
             this.store = store;
@@ -1126,7 +1126,7 @@ public final class KitchenTouch {
                     takeRow(depth);
                     story.happen(store.stepPart(step, 0), store.stepPart(step, 1), store.stepPart(step, 2), left);
                     if (story.areClean(things, left)) {
-                        int rest = orderFrom(depth + 1, done | 1 << step, things, left);
+                        int rest = orderFrom(depth + 1, done | (1 << step), things, left);
                         if (rest != NONE) {
                             return rest * 6 + step + 1;
                         }
@@ -1137,13 +1137,13 @@ public final class KitchenTouch {
         }
 
         private void keepRow(int depth) {
-            if (depth >= 0 && depth <= MOST_STEPS) {
+            if (depth >= 0 && depth < MOST_STEPS) {
                 System.arraycopy(story.now, 0, rows, depth * ROW, ROW);
             }
         }
 
         private void takeRow(int depth) {
-            if (depth >= 0 && depth <= MOST_STEPS) {
+            if (depth >= 0 && depth < MOST_STEPS) {
                 System.arraycopy(rows, depth * ROW, story.now, 0, ROW);
             }
         }

@@ -164,6 +164,11 @@ public final class PromiseTest {
         is("5 no 61st", x.event(0, BREAK, 0, 0, -1), -6);
         is("5 no thing goes ahead of room", x.event(0, BREAK, 2, 0, -1), -1);
         is("5 count", x.count(1), 60);
+        is("5 refusals", x.count(16), 9);
+        KitchenTouch y = kitchen(VESSEL, FOOD);
+        for (int i = 0; i < 59; i++) y.event(47, WET, 1, 0, -1);
+        is("5 the 60th", y.event(47, SOURCE, 0, 3, 5), 59);
+        is("5 the 60th is done", y.state(32, 0, 47), 3);
     }
 
     /** What the kinds of events do. */
@@ -479,6 +484,7 @@ public final class PromiseTest {
         is("13 no 13th", x.fact(0, 0, true), -6);
         is("13 below goes ahead of room", x.fact(0, -1, true), -4);
         is("13 count", x.count(3), 12);
+        is("13 refusals", x.count(16), 2);
         is("13 left", x.ways(1), 1);
     }
 
@@ -669,6 +675,8 @@ public final class PromiseTest {
         x = with(kitchen(0, 0, 0, 0, 0, 0, 0, 0, 0), 0, SOURCE, 8, 1, -1, 0, SOURCE, 7, 1, -1);
         is("21 the eighth", x.washing(0, 128), 128);
         is("21 not the ninth", x.washing(0, 256), -9);
+        for (int t = 0; t < 7; t++) with(x, 0, SOURCE, t, 1, -1);
+        is("21 all eight", x.washing(0, 255), 255);
         // Either would do: the least as bits.
         x = with(kitchen(FOOD, VESSEL, VESSEL), 0, SOURCE, 1, 1, 0, 0, SOURCE, 2, 1, -1, 1, BREAK, 1, 0, -1);
         x.takes(VESSEL, 4, false);
@@ -693,6 +701,7 @@ public final class PromiseTest {
         is("22 no sixth", x.step(0, 0, 1), -6);
         is("22 nobody goes ahead of room", x.step(0, 0, 0), -1);
         is("22 count", x.count(4), 5);
+        is("22 refusals", x.count(16), 1);
         is("22 they are not events", x.count(1), 0);
     }
 

@@ -1,7 +1,7 @@
 import com.sun.management.ThreadMXBean;
 import java.lang.management.ManagementFactory;
 
-/** No call makes anything anew: all rows are made with the object. And the dearest calls end soon. */
+/** No call makes anything anew: all rows are made with the object. */
 public final class RoomTest {
     private static long answers = 0;
 
