@@ -203,6 +203,7 @@ public final class KitchenTouch {
         if (way >= WAYS || hour >= HOURS) {
             return refuse(ROOM);
         }
+        story.refresh();
         story.playFromStart(hour);
         return story.degree(way, thing);
     }
@@ -676,8 +677,8 @@ public final class KitchenTouch {
             }
         }
 
+        /** Asks for a refreshed story, too. */
         void playFromStart(int lastHour) {
-            refresh();
             begin();
             play(0, lastHour);
         }
@@ -955,7 +956,7 @@ public final class KitchenTouch {
             this.story = story;
         }
 
-        /** The ways that agree with all facts. */
+        /** The ways that agree with all facts; refreshes the story. */
         long left() {
             story.refresh();
             long ways = store.everyWay();
@@ -1073,6 +1074,7 @@ public final class KitchenTouch {
             this.story = story;
         }
 
+        /** Asks for a refreshed story. */
         int fewestWashes(int hour, int things, long left) {
             if (left == 0L) {
                 return NONE;
@@ -1107,6 +1109,7 @@ public final class KitchenTouch {
             return story.areClean(things, left);
         }
 
+        /** Asks for a refreshed story. */
         int firstOrder(int things, long left) {
             if (left == 0L) {
                 return NONE;
