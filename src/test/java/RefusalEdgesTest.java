@@ -344,6 +344,14 @@ public final class RefusalEdgesTest {
         k.refused(() -> steps(5), "step", STEP, new int[] {-6, 0, 0, 1}, new int[] {-6, 4, 5, 0});
         k.sentence("REFUSALS of step: the first that fits");
         k.refused(() -> steps(5), "step", STEP, new int[] {-2, 5, 6, 6}, new int[] {-1, 0, 6, 0}, new int[] {-1, 0, 0, 0});
+        k.sentence("Promises 14, 23: how many there were");
+        for (int number = 2; number <= 12; number++) {
+            int had = number;
+            k.answered(() -> facts(had), "forget", (x, a) -> x.forget(), new int[] {had});
+            if (had <= 5) k.answered(() -> steps(had), "clear", (x, a) -> x.clear(), new int[] {had});
+        }
+        k.asked(KitchenTouch::new, "forget", (x, a) -> x.forget(), new int[] {0});
+        k.asked(KitchenTouch::new, "clear", (x, a) -> x.clear(), new int[] {0});
         k.sentence("Promise 24: -4; -1");
         k.asked(EdgeKit::rich, "cooking", COOKING, new int[] {13, 0}, new int[] {13, 32});
         k.refused(EdgeKit::rich, "cooking", COOKING, new int[] {-4, -1}, new int[] {-4, MIN}, new int[] {-1, 64}, new int[] {-1, 65},
@@ -369,6 +377,22 @@ public final class RefusalEdgesTest {
         k.asked(EdgeKit::rich, "count", count, new int[] {6, 0}, new int[] {6, 1}, new int[] {4, 2}, new int[] {2, 3},
             new int[] {2, 4}, new int[] {2, 5}, new int[] {-9, -1}, new int[] {-9, 6}, new int[] {-9, 7}, new int[] {-9, 9},
             new int[] {-9, 10}, new int[] {-9, 17}, new int[] {-9, 18}, new int[] {-9, MIN}, new int[] {-9, MAX});
+        k.sentence("Promise 28: the greatest of each");
+        KitchenTouch full = new KitchenTouch();
+        int[] most = {12, 60, 6, 12, 5, 80};
+        for (int what = 0; what <= 5; what++) {
+            for (int i = 1; i <= most[what]; i++) {
+                if (what == 0) full.thing(i % 5, false, false);
+                if (what == 1) full.event(i % 48, WET, 0, 0, -1);
+                if (what == 2 && i == 1) for (int e = 0; e < 6; e++) full.takeBack();
+                if (what == 2) full.event(0, WET, 0, 0, i % 2 == 0 ? i - 1 : 9 + i);
+                if (what == 3) full.fact(0, 0, true);
+                if (what == 4) full.step(0, 0, 1);
+                if (what == 5) full.feed(1, 't');
+                k.is("count(" + what + ")", full.count(what), i);
+            }
+        }
+        for (int what = 0; what <= 5; what++) k.is("full, count(" + what + ")", full.count(what), most[what]);
         k.sentence("Promise 28: 11 .. 16 REFUSALS -1 .. -6");
         KitchenTouch x = EdgeKit.rich();
         for (int i = 0; i < 2; i++) x.sure(6, 0);
