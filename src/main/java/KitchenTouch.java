@@ -1262,7 +1262,10 @@ public final class KitchenTouch {
             }
             int b = NONE;
             if (hasSecond(kind)) {
-                b = skip(',') ? readSecond(kind, a) : FAULTY;
+                if (!skip(',')) {
+                    return false;
+                }
+                b = kind == SOURCE ? readNumber(1, DEGREES, END) : readNumber(0, store.thingCount - 1, a);
                 if (b == FAULTY) {
                     return false;
                 }
@@ -1273,13 +1276,6 @@ public final class KitchenTouch {
             }
             store.addEvent(hour, kind, a, b, unknown);
             return true;
-        }
-
-        private int readSecond(int kind, int a) {
-            if (kind == SOURCE) {
-                return readNumber(1, DEGREES, END);
-            }
-            return readNumber(0, store.thingCount - 1, a);
         }
 
         /** -1 if none is told. */

@@ -1,106 +1,396 @@
+import com.sun.source.tree.*;
+import com.sun.source.util.JavacTask;
+import com.sun.source.util.SourcePositions;
+import com.sun.source.util.TreePath;
+import com.sun.source.util.TreePathScanner;
+import com.sun.source.util.Trees;
 import java.io.IOException;
 import java.nio.file.Files;
 import java.nio.file.Path;
+import java.util.ArrayList;
+import java.util.HashMap;
 import java.util.HashSet;
 import java.util.List;
+import java.util.Map;
 import java.util.Set;
+import java.util.TreeSet;
 import java.util.regex.Matcher;
 import java.util.regex.Pattern;
+import javax.lang.model.element.Element;
+import javax.lang.model.element.ElementKind;
+import javax.lang.model.element.ExecutableElement;
+import javax.lang.model.element.Modifier;
+import javax.lang.model.type.ArrayType;
+import javax.lang.model.type.DeclaredType;
+import javax.lang.model.type.TypeKind;
+import javax.lang.model.type.TypeMirror;
+import javax.tools.JavaCompiler;
+import javax.tools.StandardJavaFileManager;
+import javax.tools.ToolProvider;
 
-/** Those rules of LANGUAGE.md that the source's text shows. */
-public final class LanguageTest {
-    private static int wrong = 0;
+/** The rules of LANGUAGE.md by their numbers, as far as the source's tree shows them. */
+public final class LanguageTest extends TreePathScanner<Void, Void> {
+    private static final String FACE = "KitchenTouch";
+    private static final Path DOCUMENT = Path.of("../shared/DOC.md");
+    private static final int MOST_CLASSES = 12, MOST_FIELDS = 20, MOST_LINES = 60, MOST_PARAMETERS = 7, MOST_OPEN = 8;
+    private static final Set<String> PLAIN = Set.of("int", "long", "short", "byte", "char", "boolean", "double", "float", "void");
+    private static final Set<Tree.Kind> COUNTING = Set.of(Tree.Kind.PREFIX_INCREMENT, Tree.Kind.PREFIX_DECREMENT,
+        Tree.Kind.POSTFIX_INCREMENT, Tree.Kind.POSTFIX_DECREMENT);
+    /** What of the library this program may use: less than the rule lists, and no more than it does use. */
+    private static final Set<String> LIBRARY = Set.of("System.arraycopy", "Arrays.fill", "Integer.bitCount", "Long.bitCount",
+        "Math.min", "Math.max");
 
-    private static void fault(String what) {
+    private final String source;
+    private final CompilationUnitTree unit;
+    private final Trees trees;
+    private final Set<String> open = new HashSet<>();
+    private final Set<String> shut = new HashSet<>();
+    private final Map<Element, Set<Element>> calls = new HashMap<>();
+    private int classes = 0;
+    private int methods = 0;
+    private int wrong = 0;
+
+    private LanguageTest(String source, CompilationUnitTree unit, Trees trees) {
+        this.source = source;
+        this.unit = unit;
+        this.trees = trees;
+    }
+
+    private void fault(int rule, String what) {
         wrong++;
-        System.out.println("LANGUAGE: " + what);
+        System.out.println("LANGUAGE rule " + rule + ": " + what);
     }
 
-    /** The source without comments and without what stands in quotes. */
-    private static String bare(String source) {
-        return source.replaceAll("(?s)/\\*.*?\\*/", " ").replaceAll("//[^\n]*", " ")
-            .replaceAll("'(\\\\.|[^'\\\\])'", "' '").replaceAll("\"(\\\\.|[^\"\\\\])*\"", "\"\"");
+    private void fault(int rule, String what, Tree at) {
+        fault(rule, what + ", line " + line(trees.getSourcePositions().getStartPosition(unit, at)));
     }
 
-    private static void forbidWords(String code) {
-        List<String> words = List.of("throw", "throws", "try", "catch", "finally", "synchronized", "assert", "package", "native",
-            "volatile", "transient", "hashCode", "toString", "Object", "Thread", "System.out", "Random", "Exact", "var",
-            "Math.random", "Collections", "Map", "Set", "instanceof", "protected");
-        for (String word : words) {
-            if (Pattern.compile("\\b" + Pattern.quote(word) + "\\b").matcher(code).find()) fault("the word " + word);
+    private long line(long position) {
+        return unit.getLineMap().getLineNumber(position);
+    }
+
+    private Element element(Tree tree) {
+        return trees.getElement(new TreePath(getCurrentPath(), tree));
+    }
+
+    private TypeMirror type(Tree tree) {
+        return trees.getTypeMirror(new TreePath(getCurrentPath(), tree));
+    }
+
+    // ---- rules 1 and 2: the face, and classes inside
+
+    @Override
+    public Void visitCompilationUnit(CompilationUnitTree tree, Void none) {
+        if (tree.getPackageName() != null) fault(1, "a package");
+        if (tree.getTypeDecls().size() != 1) fault(1, "more than one class in the file");
+        for (ImportTree i : tree.getImports()) {
+            if (!i.getQualifiedIdentifier().toString().equals("java.util.Arrays")) fault(4, "an import", i);
         }
-        for (String sign : new String[] {"->", "::", "@"}) {
-            if (code.contains(sign)) fault("the sign " + sign);
+        return super.visitCompilationUnit(tree, none);
+    }
+
+    @Override
+    public Void visitClass(ClassTree tree, Void none) {
+        classes++;
+        Set<Modifier> flags = tree.getModifiers().getFlags();
+        boolean outmost = getCurrentPath().getParentPath().getLeaf() == unit;
+        if (outmost) {
+            if (!tree.getSimpleName().contentEquals(FACE)) fault(1, "the class's name");
+            if (!flags.equals(Set.of(Modifier.PUBLIC, Modifier.FINAL))) fault(1, "the class is " + flags);
+        } else {
+            if (!(getCurrentPath().getParentPath().getLeaf() instanceof ClassTree)) fault(2, "a local or nameless class", tree);
+            if (!flags.contains(Modifier.STATIC)) fault(2, "a class inside that is not static", tree);
+            if (flags.contains(Modifier.PUBLIC) || flags.contains(Modifier.PROTECTED)) fault(1, "an open class inside", tree);
         }
-        Matcher imports = Pattern.compile("import ([^;]*);").matcher(code);
-        while (imports.find()) {
-            if (!List.of("java.util.Arrays", "java.util.ArrayList", "java.util.List").contains(imports.group(1))) {
-                fault("import " + imports.group(1));
-            }
+        int fields = 0;
+        for (Tree member : tree.getMembers()) {
+            if (member instanceof BlockTree) fault(5, "an initialiser block", member);
+            if (member instanceof VariableTree v && !v.getModifiers().getFlags().contains(Modifier.STATIC)) fields++;
+            if (outmost) checkMemberOfFace(member);
         }
-        Matcher library = Pattern.compile("\\b(System|Arrays|Long|Integer|Math)\\.(\\w+)").matcher(code);
-        while (library.find()) {
-            if (!List.of("arraycopy", "fill", "bitCount", "min", "max").contains(library.group(2))) fault("the library's " + library.group());
+        if (fields > MOST_FIELDS) fault(11, fields + " fields", tree);
+        return super.visitClass(tree, none);
+    }
+
+    private void checkMemberOfFace(Tree member) {
+        if (member instanceof VariableTree v && !v.getModifiers().getFlags().contains(Modifier.PRIVATE)) {
+            fault(1, "a field that is not private", member);
+        }
+        if (member instanceof MethodTree m && !m.getModifiers().getFlags().contains(Modifier.PRIVATE)
+            && !m.getModifiers().getFlags().contains(Modifier.PUBLIC)) {
+            fault(1, "a method that is neither public nor private", member);
         }
     }
 
-    private static void checkStatics(String code) {
-        Matcher m = Pattern.compile("(?m)^\\s*(?:private |public )?static [^(;={]*[;=]").matcher(code);
-        while (m.find()) {
-            if (!m.group().contains(" final ")) fault("a static field that is not final: " + m.group().trim());
-        }
-        if (Pattern.compile("\\bstatic\\s*\\{").matcher(code).find()) fault("a static initialiser");
+    @Override
+    public Void visitLambdaExpression(LambdaExpressionTree tree, Void none) {
+        fault(2, "a lambda", tree);
+        return super.visitLambdaExpression(tree, none);
     }
 
-    private static void checkMethods(String[] lines) {
-        Pattern head = Pattern.compile("^( {4}| {8})(?! )(.*?)\\b(\\w+)\\(([^)]*)\\) \\{$");
-        Set<String> open = new HashSet<>();
-        Set<String> hidden = new HashSet<>();
-        int methods = 0;
-        for (int i = 0; i < lines.length; i++) {
-            Matcher m = head.matcher(lines[i]);
-            if (!m.find() || m.group(3).matches("if|for|while|switch")) continue;
-            methods++;
-            int end = i;
-            while (end < lines.length && !lines[end].equals(m.group(1) + "}")) end++;
-            if (end - i > 60) fault("a method of " + (end - i) + " lines: " + m.group(3));
-            if (!m.group(4).isEmpty() && m.group(4).split(",").length > 7) fault("parameters of " + m.group(3));
-            if (m.group(1).length() == 4) {
-                if (m.group(2).startsWith("public")) open.add(m.group(3));
-                else if (m.group(2).startsWith("private")) hidden.add(m.group(3));
-                else fault("neither public nor private: " + m.group(3));
+    @Override
+    public Void visitMemberReference(MemberReferenceTree tree, Void none) {
+        fault(2, "a method reference", tree);
+        return super.visitMemberReference(tree, none);
+    }
+
+    // ---- rules 3 and 5: types, and static fields
+
+    private boolean isPlain(TypeMirror type) {
+        return PLAIN.contains(type.toString());
+    }
+
+    private boolean isOwn(TypeMirror type) {
+        return type instanceof DeclaredType d && trees.getPath(d.asElement()) != null;
+    }
+
+    private boolean isAllowed(TypeMirror type) {
+        return isPlain(type) || isOwn(type) || (type instanceof ArrayType a && isPlain(a.getComponentType()));
+    }
+
+    @Override
+    public Void visitVariable(VariableTree tree, Void none) {
+        TypeMirror type = trees.getTypeMirror(getCurrentPath());
+        if (!isAllowed(type)) fault(3, "the type " + type, tree);
+        Set<Modifier> flags = tree.getModifiers().getFlags();
+        if (flags.contains(Modifier.STATIC)) {
+            boolean written = tree.getInitializer() instanceof NewArrayTree n && n.getInitializers() != null;
+            if (!flags.contains(Modifier.FINAL)) fault(5, "a static field that is not final", tree);
+            if (!isPlain(type) && !written) fault(5, "a static field of the type " + type, tree);
+        }
+        return super.visitVariable(tree, none);
+    }
+
+    private void checkChanged(ExpressionTree changed) {
+        if (changed instanceof ArrayAccessTree row) {
+            Element e = element(row.getExpression());
+            if (e != null && e.getModifiers().contains(Modifier.STATIC)) fault(5, "a static row is changed", changed);
+        }
+    }
+
+    @Override
+    public Void visitAssignment(AssignmentTree tree, Void none) {
+        checkChanged(tree.getVariable());
+        return super.visitAssignment(tree, none);
+    }
+
+    @Override
+    public Void visitCompoundAssignment(CompoundAssignmentTree tree, Void none) {
+        checkChanged(tree.getVariable());
+        return super.visitCompoundAssignment(tree, none);
+    }
+
+    @Override
+    public Void visitUnary(UnaryTree tree, Void none) {
+        if (COUNTING.contains(tree.getKind())) checkChanged(tree.getExpression());
+        return super.visitUnary(tree, none);
+    }
+
+    // ---- rules 4, 8 and 12: what is called, what is made
+
+    private Element openMethod() {
+        for (TreePath path = getCurrentPath(); path != null; path = path.getParentPath()) {
+            if (path.getLeaf() instanceof MethodTree) return trees.getElement(path);
+        }
+        return null;
+    }
+
+    @Override
+    public Void visitMethodInvocation(MethodInvocationTree tree, Void none) {
+        ExecutableElement called = (ExecutableElement) element(tree.getMethodSelect());
+        if (called.getKind() == ElementKind.CONSTRUCTOR) return super.visitMethodInvocation(tree, none);
+        if (trees.getPath(called) != null) {
+            Element caller = openMethod();
+            if (caller != null) calls.computeIfAbsent(caller, c -> new HashSet<>()).add(called);
+            if (caller != null && caller.getKind() == ElementKind.CONSTRUCTOR) fault(12, "a constructor calls " + called, tree);
+        } else {
+            String name = called.getEnclosingElement().getSimpleName() + "." + called.getSimpleName();
+            if (!LIBRARY.contains(name)) fault(4, "the library's " + name, tree);
+        }
+        return super.visitMethodInvocation(tree, none);
+    }
+
+    private void checkMaking(Tree tree) {
+        Element maker = openMethod();
+        if (maker != null && maker.getKind() != ElementKind.CONSTRUCTOR) fault(12, maker + " makes something", tree);
+    }
+
+    @Override
+    public Void visitNewClass(NewClassTree tree, Void none) {
+        checkMaking(tree);
+        if (!isOwn(type(tree.getIdentifier()))) fault(4, "a new one of " + tree.getIdentifier(), tree);
+        return super.visitNewClass(tree, none);
+    }
+
+    @Override
+    public Void visitNewArray(NewArrayTree tree, Void none) {
+        checkMaking(tree);
+        return super.visitNewArray(tree, none);
+    }
+
+    // ---- rule 6: what there is none of
+
+    @Override
+    public Void visitThrow(ThrowTree tree, Void none) {
+        fault(6, "a throw", tree);
+        return super.visitThrow(tree, none);
+    }
+
+    @Override
+    public Void visitTry(TryTree tree, Void none) {
+        fault(6, "a try", tree);
+        return super.visitTry(tree, none);
+    }
+
+    @Override
+    public Void visitSynchronized(SynchronizedTree tree, Void none) {
+        fault(6, "a synchronized", tree);
+        return super.visitSynchronized(tree, none);
+    }
+
+    @Override
+    public Void visitAssert(AssertTree tree, Void none) {
+        fault(6, "an assert", tree);
+        return super.visitAssert(tree, none);
+    }
+
+    @Override
+    public Void visitTypeCast(TypeCastTree tree, Void none) {
+        if (!isPlain(type(tree.getType()))) fault(6, "a cast of objects", tree);
+        return super.visitTypeCast(tree, none);
+    }
+
+    @Override
+    public Void visitAnnotation(AnnotationTree tree, Void none) {
+        fault(4, "an annotation", tree);
+        return super.visitAnnotation(tree, none);
+    }
+
+    @Override
+    public Void visitBinary(BinaryTree tree, Void none) {
+        TypeMirror type = type(tree);
+        if (!isPlain(type)) fault(10, "a text joined by " + tree.getKind(), tree);
+        if (tree.getKind() == Tree.Kind.DIVIDE || tree.getKind() == Tree.Kind.REMAINDER) {
+            fault(7, "a division: its divisor must be looked at first, and this test with it", tree);
+        }
+        return super.visitBinary(tree, none);
+    }
+
+    // ---- rule 9: each loop has an end that its own lines show
+
+    private void checkEnd(Tree loop, ExpressionTree condition) {
+        String told = condition == null ? "" : condition.toString();
+        if (!Pattern.compile("[^<>][<>]=? ").matcher(told).find()) fault(9, "a loop without a bound: " + told, loop);
+    }
+
+    @Override
+    public Void visitForLoop(ForLoopTree tree, Void none) {
+        checkEnd(tree, tree.getCondition());
+        return super.visitForLoop(tree, none);
+    }
+
+    @Override
+    public Void visitWhileLoop(WhileLoopTree tree, Void none) {
+        checkEnd(tree, tree.getCondition());
+        return super.visitWhileLoop(tree, none);
+    }
+
+    @Override
+    public Void visitDoWhileLoop(DoWhileLoopTree tree, Void none) {
+        checkEnd(tree, tree.getCondition());
+        return super.visitDoWhileLoop(tree, none);
+    }
+
+    // ---- rules 8 and 11: methods, and how deep calls go
+
+    @Override
+    public Void visitMethod(MethodTree tree, Void none) {
+        SourcePositions places = trees.getSourcePositions();
+        Element method = trees.getElement(getCurrentPath());
+        long lines = line(places.getEndPosition(unit, tree)) - line(places.getStartPosition(unit, tree)) + 1;
+        if (lines > MOST_LINES) fault(11, method + " has " + lines + " lines");
+        if (tree.getParameters().size() > MOST_PARAMETERS) fault(11, method + " has " + tree.getParameters().size() + " parameters");
+        methods++;
+        String name = tree.getName().toString();
+        if (!name.equals("<init>")) (tree.getModifiers().getFlags().contains(Modifier.PUBLIC) ? open : shut).add(name);
+        return super.visitMethod(tree, none);
+    }
+
+    private void checkNames() {
+        Set<String> both = new TreeSet<>(open);
+        both.retainAll(shut);
+        if (!both.isEmpty()) fault(1, "names of public methods that others bear: " + both);
+    }
+
+    /** How many calls stand open at most from this one on; one that calls itself must be told its depth. */
+    private int openCalls(Element method, List<Element> chain) {
+        int most = 0;
+        chain.add(method);
+        for (Element called : calls.getOrDefault(method, Set.of())) {
+            if (called.equals(method)) {
+                if (!((ExecutableElement) method).getParameters().toString().contains("depth")) fault(8, method + " calls itself without a depth");
+            } else if (chain.contains(called)) {
+                fault(8, method + " and " + called + " call one another");
             } else {
-                hidden.add(m.group(3));
+                most = Math.max(most, openCalls(called, chain));
             }
         }
-        if (methods < 60) fault("only " + methods + " methods were found to be checked");
-        for (String name : hidden) {
-            if (open.contains(name) && !name.equals("KitchenTouch")) fault("the name of a public method: " + name);
+        chain.remove(chain.size() - 1);
+        return most + 1;
+    }
+
+    private void checkDepth() {
+        for (Element method : calls.keySet()) {
+            int deep = openCalls(method, new ArrayList<>());
+            if (deep > MOST_OPEN) fault(11, method + " goes " + deep + " calls deep");
         }
     }
 
-    private static void checkFace(String code, String document) {
-        String face = document.substring(document.indexOf("public final class"), document.indexOf("## Terms"));
-        Set<String> due = new HashSet<>();
-        Matcher m = Pattern.compile("public (?!final class)[^;]*").matcher(face);
+    // ---- the document's face
+
+    private void checkFace(String document) {
+        String told = document.substring(document.indexOf("public final class"), document.indexOf("## Terms"));
+        Set<String> due = new TreeSet<>();
+        Matcher m = Pattern.compile("public (?!final class)[^;]*").matcher(told);
         while (m.find()) due.add(m.group());
-        Set<String> got = new HashSet<>();
-        m = Pattern.compile("(?m)^    public ([^{;=]*)").matcher(code);
+        Set<String> got = new TreeSet<>();
+        m = Pattern.compile("(?m)^    public ([^{;=]*)").matcher(source);
         while (m.find()) got.add("public " + m.group(1).trim());
-        if (!due.equals(got)) fault("the face is " + got + ", due is " + due);
+        for (String member : due) {
+            if (!got.contains(member)) fault(1, "not in the face: " + member);
+        }
+        for (String member : got) {
+            if (!due.contains(member)) fault(1, "not in the document's face: " + member);
+        }
+    }
+
+    private void checkSigns() {
+        for (int i = 0; i < source.length(); i++) {
+            char sign = source.charAt(i);
+            if (sign > 126 || (sign < ' ' && sign != '\n')) fault(4, "the sign " + (int) sign + ", line " + line(i));
+        }
+    }
+
+    private void checkAll(String document) {
+        scan(unit, null);
+        if (classes > MOST_CLASSES) fault(11, classes + " classes");
+        if (methods < 60) fault(0, "only " + methods + " methods were found to be checked");
+        checkNames();
+        checkDepth();
+        checkFace(document);
+        checkSigns();
     }
 
     public static void main(String[] args) throws IOException {
-        String source = Files.readString(Path.of("src/main/java/KitchenTouch.java"));
-        String code = bare(source);
-        forbidWords(code);
-        checkStatics(code);
-        checkMethods(source.split("\n"));
-        checkFace(code, Files.readString(Path.of("../shared/DOC.md")));
-        for (int i = 0; i < source.length(); i++) {
-            if (source.charAt(i) > 126) fault("a sign above 126 at " + i);
-        }
-        System.out.println("LanguageTest: " + wrong + " faults");
-        if (wrong != 0) System.exit(1);
+        Path path = Path.of(args.length > 0 ? args[0] : "src/main/java/" + FACE + ".java");
+        JavaCompiler compiler = ToolProvider.getSystemJavaCompiler();
+        StandardJavaFileManager files = compiler.getStandardFileManager(null, null, null);
+        JavacTask task = (JavacTask) compiler.getTask(null, files, null, List.of("-proc:none"), null, files.getJavaFileObjects(path));
+        CompilationUnitTree unit = task.parse().iterator().next();
+        task.analyze();
+        LanguageTest test = new LanguageTest(Files.readString(path), unit, Trees.instance(task));
+        test.checkAll(Files.readString(DOCUMENT));
+        System.out.println("LanguageTest: " + test.classes + " classes, " + test.methods + " methods, " + test.wrong + " faults");
+        if (test.wrong != 0) System.exit(1);
     }
 }

@@ -6,11 +6,14 @@ import java.util.Random;
 public final class ModelTest {
     private static int wrong = 0;
     private static final int RUNS = 1500;
+    /** Calls of a run; of a long one, which goes on to an object's last call; an act takes a hundred at most. */
+    private static final int SHORT = 160, LAST = 512, ACT = 100;
 
     private final Random random;
     private final KitchenTouch program = new KitchenTouch();
     private final PlainModel model = new PlainModel();
     private final List<String> calls = new ArrayList<>();
+    private int made = 0;
     private final long seed;
     // What this run is like.
     private final int firstHour;
@@ -39,6 +42,7 @@ public final class ModelTest {
 
     private void same(String call, int got, int want) {
         calls.add(call + " -> " + got);
+        made++;
         if (got != want) {
             wrong++;
             if (wrong < 4) {
@@ -265,7 +269,8 @@ public final class ModelTest {
         }
         int events = random.nextInt(random.nextInt(10) == 0 ? 64 : cooks ? 6 : 16);
         for (int i = 0; i < events; i++) addEvent();
-        while (calls.size() < 160) {
+        boolean goesOn = seed % 20 == 0;
+        while (made < (goesOn ? LAST - ACT : SHORT)) {
             int r = random.nextInt(20);
             if (r == 0 && (model.w.things.size() < mostThings || wild)) addThing();
             else if (r < 5) addEvent();
@@ -282,6 +287,11 @@ public final class ModelTest {
             }
         }
         for (int what = -1; what < 18; what++) same("count(" + what + ")", program.count(what), model.count(what));
+        while (goesOn && made < LAST) {
+            int t = thing();
+            int h = hour();
+            same("many(" + t + "," + h + ")", program.many(t, h), model.many(t, h));
+        }
     }
 
     public static void main(String[] args) {
