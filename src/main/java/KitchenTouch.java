@@ -439,8 +439,7 @@ public final class KitchenTouch {
         return kind == FOOD || kind == LIQUID;
     }
 
-    /** The ways in which an event was, by its unknown as told. */
-    private static long waysOf(int unknown) {
+    private static long waysToldBy(int unknown) {
         if (unknown >= 0 && unknown < UNKNOWNS) {
             return IS_ONE[unknown];
         }
@@ -670,7 +669,7 @@ public final class KitchenTouch {
             orderByHours();
             begin();
             for (int hour = 0; hour < HOURS; hour++) {
-                play(hour, hour);
+                playHours(hour, hour);
                 for (int thing = 0; thing < MOST_THINGS; thing++) {
                     uncleanByHour[hour * MOST_THINGS + thing] = now[thing * WIDTH + UNCLEAN];
                 }
@@ -680,7 +679,7 @@ public final class KitchenTouch {
         /** Asks for a refreshed story, too. */
         void playFromStart(int lastHour) {
             begin();
-            play(0, lastHour);
+            playHours(0, lastHour);
         }
 
         /** Asks for a refreshed story. */
@@ -772,15 +771,14 @@ public final class KitchenTouch {
             }
         }
 
-        /** Plays the events of some hours on. */
-        void play(int firstHour, int lastHour) {
+        void playHours(int firstHour, int lastHour) {
             for (int hour = Math.max(firstHour, 0); hour <= lastHour && hour < HOURS; hour++) {
                 if (hour == SUNSET) {
                     cleanTheWashed();
                 }
                 for (int i = hourStarts[hour]; i < hourStarts[hour + 1] && i < MOST_EVENTS; i++) {
                     int event = order[i];
-                    long were = waysOf(store.eventPart(event, 4));
+                    long were = waysToldBy(store.eventPart(event, 4));
                     int kind = store.eventPart(event, 1);
                     int a = store.eventPart(event, 2);
                     int b = store.eventPart(event, 3);
@@ -809,7 +807,7 @@ public final class KitchenTouch {
                 return;
             }
             if (kind > POUR) {
-                alter(kind, a, were);
+                alterOne(kind, a, were);
             } else if (b >= 0 && b < MOST_THINGS) {
                 // What both had is copied first: each is given what the other had ahead of the event.
                 System.arraycopy(now, a * WIDTH, handedByA, 0, HANDED);
@@ -828,8 +826,7 @@ public final class KitchenTouch {
             shareAmongJoined(were);
         }
 
-        /** What happens to one thing alone. */
-        private void alter(int kind, int thing, long were) {
+        private void alterOne(int kind, int thing, long were) {
             int base = thing * WIDTH;
             boolean vessel = isVessel(store.kindOf(thing));
             switch (kind) {
@@ -1105,7 +1102,7 @@ public final class KitchenTouch {
                     }
                 }
             }
-            story.play(hour + 1, HOURS - 1);
+            story.playHours(hour + 1, HOURS - 1);
             return story.areClean(things, left);
         }
 

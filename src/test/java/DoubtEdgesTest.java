@@ -104,13 +104,21 @@ public final class DoubtEdgesTest {
             k.is("many of " + t + " without it", x.many(t, 1), due);
             k.is("sure of " + t + " without it", x.sure(t, 1), due == 63 ? 2 : due == 0 ? 0 : 1);
         }
-        k.sentence("Promise 15: -9 no WAY is LEFT; MANY none");
+        k.sentence("Promise 15: -9 no WAY is LEFT; Promise 17: likewise");
         x.fact(1, 1, false);
         for (int t = 0; t < many.length; t++) {
             k.is("sure of " + t, x.sure(t, 1), -9);
-            k.is("many of " + t, x.many(t, 1), 0);
             k.is("judged of " + t, x.judged(t, 1), -9);
         }
+        k.sentence("MANY: in how many; Promise 16 has -1, -4, -6 alone: in none, where no WAY is LEFT");
+        for (int t = 0; t < many.length; t++) {
+            for (int hour : new int[] {0, 1, 24, 47}) k.is("many of " + t + " at " + hour, x.many(t, hour), 0);
+        }
+        k.is("nobody", x.many(many.length, 1), -1);
+        k.is("below", x.many(0, -1), -4);
+        k.is("no room", x.many(0, 48), -6);
+        x.forget();
+        k.is("all LEFT again", x.many(0, 1), 64);
     }
 
     // ---- judged

@@ -193,10 +193,12 @@ final class EdgeKit {
 
     private static void lookAtNumbers(KitchenTouch x, List<Integer> seen) {
         lookAtCounts(x, seen);
-        for (int e = 0; e < x.count(1); e++) {
+        int events = x.count(1);
+        for (int e = 0; e < events; e++) {
             for (int what = 0; what < 5; what++) seen.add(x.of(e, what));
         }
-        for (int thing = 0; thing < x.count(0); thing++) seen.add(x.judged(thing, 30));
+        int things = x.count(0);
+        for (int thing = 0; thing < things; thing++) seen.add(x.judged(thing, 30));
         for (int kind = 0; kind < 6; kind++) {
             seen.add(x.takes(kind, 0, false));
             seen.add(x.takes(kind, 0, true));
@@ -228,7 +230,8 @@ final class EdgeKit {
     }
 
     private static void lookAtStates(KitchenTouch x, List<Integer> seen) {
-        for (int thing = 0; thing < x.count(0); thing++) {
+        int things = x.count(0);
+        for (int thing = 0; thing < things; thing++) {
             for (int way = 0; way < 64; way += 21) {
                 for (int hour : new int[] {0, 1, 3, 23, 24, 25, 47}) seen.add(x.state(way, thing, hour));
             }

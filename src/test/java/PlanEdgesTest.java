@@ -327,6 +327,30 @@ public final class PlanEdgesTest {
         k.is("by a HOUSE", x.house(), 2);
         k.is("taken back, too", x.takeBack(), 1);
         k.is("the first of it", x.of(0, 4), 2);
+        takenBackAsTold();
+    }
+
+    private static void takenBackAsTold() {
+        k.sentence("The latest EVENT: EVENTS come by calls and by a HOUSE, and only are done by HOURS");
+        KitchenTouch x = with(vessels(2), 30, SOURCE, 0, 1, -1);
+        EdgeKit.feed(x, "e2,8,1;e40,8,0;t0;");
+        k.is("a HOUSE", x.house(), 3);
+        with(x, 1, WET, 0, 0, -1);
+        EdgeKit.feed(x, "e3,8,2;e4,8,3;");
+        k.is("a HOUSE with a FAULT", x.house(), -20 - 12);
+        int[] hours = {30, 2, 40, 1, 3};
+        for (int left = 4; left >= 0; left--) {
+            k.is("the HOUR of " + left, x.of(left, 0), hours[left]);
+            k.is("left", x.takeBack(), left);
+            k.is("gone", x.of(left, 0), -1);
+        }
+        k.is("there is none", x.takeBack(), -3);
+        k.is("THINGS stay", x.count(0), 3);
+        x = with(vessels(1), 9, SOURCE, 0, 1, -1);
+        x.image();
+        with(x, 8, SOURCE, 0, 2, -1);
+        x.restore();
+        k.is("the IMAGE's latest", x.takeBack(), 0);
     }
 
     private static void image() {

@@ -39,13 +39,15 @@ public final class RefusalEdgesTest {
 
     private static KitchenTouch eventsTold(int number) {
         KitchenTouch x = EdgeKit.rich();
-        while (x.count(1) < number) EdgeKit.with(x, x.count(1) % 48, WET, 0, 0, -1);
+        int had = x.count(1);
+        for (int e = had; e < number; e++) EdgeKit.with(x, e % 48, WET, 0, 0, -1);
         return x;
     }
 
     private static KitchenTouch bytes(int number) {
         KitchenTouch x = EdgeKit.rich();
-        while (x.count(5) < number) x.feed(1, 'k');
+        int had = x.count(5);
+        for (int i = had; i < number; i++) x.feed(1, 'k');
         return x;
     }
 
