@@ -324,7 +324,7 @@ public final class KitchenTouch {
     }
 
     public int step(int kind, int a, int b) {
-        if (kind < 0 || kind > POUR) {
+        if (kind < TOUCH || kind > POUR) {
             return refuse(OTHER);
         }
         if (!store.isThere(a) || !store.isThere(b) || a == b) {
