@@ -357,6 +357,17 @@ public final class DoubtEdgesTest {
         x = with(vessels(1), 0, SOURCE, 0, 1, 0, 0, WASH, 0, 0, -1, 0, SOURCE, 0, 2, 10);
         x.fact(0, 0, false);
         k.is("the one that was not counts as the first", x.sources(0, 0), 2);
+        k.sentence("in some WAY: in one of 64");
+        x = vessels(1);
+        for (int u = 0; u < 6; u++) with(x, 0, SOURCE, 0, 1, u);
+        with(x, 0, SOURCE, 0, 1, -1);
+        k.is("the last in WAY 0 alone", x.sources(0, 0), 127);
+        x = vessels(1);
+        for (int u = 0; u < 6; u++) with(x, 0, SOURCE, 0, 1, 10 + u);
+        with(x, 0, SOURCE, 0, 1, -1);
+        k.is("the last in WAY 63 alone", x.sources(0, 0), 127);
+        x = with(vessels(1), 0, SOURCE, 0, 1, 0, 0, WASH, 0, 0, -1, 0, SOURCE, 0, 2, 10);
+        x.fact(0, 0, false);
         k.sentence("0 without WAYS LEFT");
         x.fact(0, 0, true);
         k.is("none", x.sources(0, 0), 0);
